@@ -16,6 +16,10 @@ final class Due {
         }
     }
 
+    static int wrong() {
+        return wrong;
+    }
+
     static void isTrue(String what, boolean holds) {
         is(what, holds ? 1 : 0, 1);
     }
