@@ -1032,9 +1032,6 @@ public final class BiteFirst {
                 token = Token.isSign(bytes[next]) ? bytes[next] : Token.NONE_SUCH;
                 next++;
             }
-            if (token == Token.NONE_SUCH) {
-                fail();
-            }
         }
 
         private void readNumber() {
@@ -1442,7 +1439,7 @@ public final class BiteFirst {
     private static final class Cover {
         private static final int SHAPE_BITS = 7;
 
-        // By the cells that are left.
+        // By the cells that are left; none of them stay at 0.
         private final int[] fewestOf = new int[ALL_CELLS + 1];
 
         int fewestBites(int shape, int left) {
@@ -1452,7 +1449,6 @@ public final class BiteFirst {
             if (shape == 0) {
                 return NONE;
             }
-            fewestOf[0] = 0;
             for (int cells = 1; cells <= left && cells <= ALL_CELLS; cells++) {
                 // Whatever the order of the bites is, one of them takes the lowest cell.
                 int lowest = Integer.bitCount((cells & -cells) - 1);

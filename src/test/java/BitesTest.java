@@ -10,15 +10,19 @@ public final class BitesTest {
         bites();
         bitesOfKinds();
         bests();
+        bestsAtTheEdge();
         bestsThatWait();
         orders();
         ordersByHand();
+        ordersWithoutMoney();
         duels();
         duelsByHand();
+        duelsWithoutMoney();
         fewest();
         soonest();
         hires();
         asksChangeNothing();
+        aFullTable();
         Due.end("BitesTest");
     }
 
@@ -212,6 +216,35 @@ public final class BitesTest {
         Due.is("P17 nothing left", z.best(0, 0), NONE);
     }
 
+    private static void bestsAtTheEdge() {
+        BiteFirst x = pair(10, 32, 0, 9);
+        x.good(0, 9);
+        x.put(0, 11, 1);
+        x.put(1, 11, 1);
+        Due.is("P17 good 0, place 0", x.best(0, 0), 0);
+        x.eater(0, 1);
+        Due.is("P19 good 0, place 0", x.duel(0, 1, 1, 1), 0);
+        Due.is("P18 good 0, place 0", x.orderly(1), 14);
+        x.put(0, 0, 2);
+        Due.is("P17 good 1, place 0", x.best(0, 0), 100);
+        Due.is("P19 good 1, place 0", x.duel(0, 1, 1, 1), 100);
+        Due.is("P18 good 1, place 0", x.orderly(1), 7);
+        Due.is("P28 good 1, place 0", x.film(0, 1), 1);
+        Due.is("P28 good 1, place 0", x.ends(0, 1, 2), 0);
+        x.put(1, 11, 0);
+        x.put(0, 11, 512);
+        Due.is("P17 the first of two ways", x.best(0, 0), 9);
+        BiteFirst y = pair(0, 1, 0, 9);
+        y.put(0, 11, 512);
+        Due.is("P17 place 15", y.best(0, 0), 15);
+        y.lend(0, 1, 2);
+        Due.is("P17 all one has", y.best(0, 0), 15);
+        y.lend(0, 1, 1);
+        Due.is("P17 too dear by 1", y.best(0, 0), NONE);
+        y.eater(0, 1);
+        Due.is("P19 place 15", y.duel(1, 0, 1, 1), 15);
+    }
+
     private static void bestsThatWait() {
         BiteFirst x = pair(4, 0b11, 6, 9);
         Due.is("P17 no waiting", x.best(0, 1), 14);
@@ -286,6 +319,59 @@ public final class BitesTest {
         Due.is("P18 nothing is eaten", y.part(0, 11), 0b1001);
         Due.is("P18 nothing is paid", y.told(0, 3), 100);
         Due.is("P18 nothing is had", y.told(0, 4), 0);
+    }
+
+    private static void ordersWithoutMoney() {
+        // All have money for one bite alone, and the best order is not the first.
+        BiteFirst x = new BiteFirst();
+        x.good(8, 6);
+        x.put(0, 11, 0b11);
+        x.put(0, 1, 50);
+        x.eater(0, 1);
+        x.eater(30, 1);
+        x.eater(39, 1);
+        for (int e = 0; e < 3; e++) {
+            x.lend(e, 1, 2);
+        }
+        Due.is("P18 the last ahead of one more", x.orderly(0), 132);
+        Due.is("P18 50 and 15 for 4", x.orderly(1), 61);
+    }
+
+    private static void duelsWithoutMoney() {
+        BiteFirst x = pair(0, 1, 0, 3);
+        x.eater(0, 1);
+        x.put(0, 7, 30);
+        x.put(0, 8, 20);
+        x.lend(0, 1, 2);
+        x.lend(1, 1, 2);
+        Due.is("P19 money for one bite", x.duel(0, 1, 1, 0), 28);
+        Due.is("P19 money for one bite each", x.duel(0, 1, 2, 0), 10);
+        Due.is("P19 its bite", x.duel(0, 1, 2, 1), 13);
+    }
+
+    /** Five eaters, six goods: nothing beyond them is looked at. */
+    private static void aFullTable() {
+        BiteFirst x = new BiteFirst();
+        for (int g = 0; g < 6; g++) {
+            x.good(0, 2 + g);
+        }
+        for (int e = 0; e < 5; e++) {
+            x.eater(0, 1);
+        }
+        x.image();
+        Due.is("P17 the last good", x.best(4, 0), 506);
+        Due.is("P18 gains of 5", x.orderly(1), 25);
+        Due.is("P19 the last two", x.duel(4, 3, 2, 1), 506);
+        Due.is("P21 all of them", x.soonest(5, 1), 10);
+        Due.is("P23 all of them", x.whose(5, 1), 31);
+        Due.is("P28 the last good", x.film(0, 13), 13);
+        Due.is("P26 the last good", x.ends(0, 5, 2), 0);
+        Due.is("P26 the last but one", x.ends(0, 4, 2), 1023 - 7);
+        Due.is("P29 the last eater", x.drawn(1, 60, 4, 1) <= 100 ? 1 : 0, 1);
+        x.bite(4, 5, 6);
+        Due.is("P32 back", x.back(), 5);
+        Due.is("P32 the last good", x.part(5, 11), 1023);
+        Due.is("P32 the last eater", x.told(4, 3), 100);
     }
 
     private static void duels() {
@@ -392,10 +478,18 @@ public final class BitesTest {
         Due.is("P20 eater -1", x.fewest(-1, 0), -5);
         Due.is("P20 good 1", x.fewest(0, 1), -5);
         Due.is("P20 good -1", x.fewest(0, -1), -5);
-        // 0b1011 takes 0 1 3 and 2 (4 5), less greedy than three for the first three.
         BiteFirst g = pair(0, 0b1011, 0, 1);
         g.put(0, 11, 0b0110011);
         Due.is("P20 not by greed", g.fewest(0, 0), 2);
+        g.put(0, 11, 0b101);
+        Due.is("P20 by its upper bits", g.fewest(0, 0), 1);
+        g.put(0, 11, 0b1010000);
+        Due.is("P20 by its upper bits", g.fewest(0, 0), 1);
+        g.put(0, 11, 0b1000000000);
+        Due.is("P20 the last cell", g.fewest(0, 0), 1);
+        g.lend(0, 0, 0b100000);
+        g.put(0, 11, 1023);
+        Due.is("P20 the highest bit alone", g.fewest(0, 0), 10);
     }
 
     private static void soonest() {
@@ -404,6 +498,10 @@ public final class BitesTest {
         x.good(4, 1);
         Due.is("P21 nobody", x.soonest(0, 0), NONE);
         Due.is("P21 nobody, how many", x.soonest(0, 1), NONE);
+        x.put(0, 11, 0);
+        Due.is("P21 nobody, nothing left", x.soonest(0, 0), NONE);
+        Due.is("P21 nobody, nothing left", x.soonest(0, 1), NONE);
+        x.put(0, 11, 1023);
         x.eater(20, 63);
         Due.is("P21 none can", x.soonest(0, 0), NONE);
         Due.is("P21 none can, how many", x.soonest(0, 1), NONE);

@@ -10,7 +10,9 @@ public final class DayAndLawTest {
         feeds();
         readsTexts();
         tellsFaults();
+        tellsFaultsOfWords();
         tellsFaultsOfDepth();
+        readsManyLongTexts();
         keepsSixTexts();
         forces();
         asks();
@@ -210,6 +212,56 @@ public final class DayAndLawTest {
         Due.is("P5 four digits", Due.text(new BiteFirst(), "pays 9999;likes 0000;waits 1234;"), 1);
     }
 
+    private static void tellsFaultsOfWords() {
+        String tail = ";likes 1;waits 1;";
+        String[] names = {"cells", "worth", "soft", "more", "left", "day"};
+        for (String name : names) {
+            int n = name.length();
+            faultBehind("pays ", "x" + name.substring(1) + tail);
+            faultBehind("pays ", name.substring(0, n - 1) + "x" + tail);
+            faultBehind("pays ", name.substring(0, n - 1) + tail);
+            faultBehind("pays ", name + name.charAt(n - 1) + tail);
+            faultBehind("pays ", name.substring(0, 1) + "x" + name.substring(2) + tail);
+            faultBehind("", name + " 1" + tail);
+        }
+        faultBehind("", "says 1" + tail);
+        faultBehind("pays 1;", "bikes 1;waits 1;");
+        faultBehind("pays 1;likes 1;", "baits 1;");
+        faultBehind("pays 1;likes 1;", "waist 1;");
+        faultBehind("pays 1 ", "nr 1" + tail);
+        faultBehind("pays 1 ", "on 1" + tail);
+        faultBehind("pays 1 ", "end 1" + tail);
+        faultBehind("pays 1 ", "ant 1" + tail);
+        faultBehind("pays ", "dot 1" + tail);
+        faultBehind("pays ", "nor 1" + tail);
+        faultBehind("pays ", "or 1" + tail);
+        faultBehind("pays ", "likes" + tail);
+        faultBehind("pays ", "waits" + tail);
+        faultBehind("pays 1 or ", "and 1" + tail);
+        faultBehind("pays 1;likes 1 ", "waits 1;");
+    }
+
+    private static void readsManyLongTexts() {
+        BiteFirst x = new BiteFirst();
+        x.eater(0, 1);
+        x.good(0, 1);
+        String all = "pays 1+2+3+4+5+6+7+8+9+1+2+3+4+5+6+7+8+9+1+2+3+4+5+6+7+8+9+1+2+3+4+5+6+7+8+9;likes ";
+        for (int k = 0; k < 5; k++) {
+            Due.is("P5 too early", Due.text(x, all), -100 - all.length());
+        }
+        Due.is("P5 a long one", Due.text(x, all + "2*3*4;waits 8-7-1+day*1*1*1*1*1*1*1;"), 1);
+        Due.is("P5 a short one", Due.text(x, "pays 5;likes 6;waits 7;"), 2);
+        Due.is("P5 the long one again", Due.text(x, all + "2*3*4;waits 8-7-1+day*1*1*1*1*1*1*1;"), 3);
+        int[][] say = {{0, 0, 0}, {180, 24, 9}, {5, 6, 7}, {180, 24, 9}};
+        x.set(9);
+        for (int t = 1; t < 4; t++) {
+            x.force(t);
+            for (int part = 0; part < 3; part++) {
+                Due.is("P5 text " + t + " says", x.asks(part, 0, 0, 0), say[t][part]);
+            }
+        }
+    }
+
     private static void tellsFaultsOfDepth() {
         String tail = ";likes 1;waits 1;";
         String[] fine = {"(((((1)))))", "not not not not not 1", "-----1", "not(-(not 1))", "(((((1)))))+(((((1)))))",
@@ -218,7 +270,11 @@ public final class DayAndLawTest {
             "((((-1))))+((((-1))))", "((((not 1))))"};
         for (String e : fine) {
             Due.is("P5 " + e, Due.text(new BiteFirst(), "pays " + e + tail), 1);
+            Due.is("P5 likes " + e, Due.text(new BiteFirst(), "pays 1;likes " + e + ";waits 1;"), 1);
+            Due.is("P5 waits " + e, Due.text(new BiteFirst(), "pays 1;likes 1;waits " + e + ";"), 1);
         }
+        faultBehind("pays 1;likes (((((", "(1)))))); waits 1;");
+        faultBehind("pays 1;likes 1;waits (((((", "(1))))));");
         faultBehind("pays (((((", "(1))))))" + tail);
         faultBehind("pays not not not not not ", "not 1" + tail);
         faultBehind("pays -----", "-1" + tail);

@@ -178,6 +178,17 @@ public final class LotsAndHostTest {
         Due.is("P11 another third", x.eater(47, 9), 2);
         Due.is("P12 its kind", x.told(2, 0), 4);
         Due.is("P12 its purse", x.told(2, 3), 100);
+        x.good(9, 7);
+        x.bite(2, 0, 6);
+        x.put(0, 3, 1);
+        Due.is("P12 it had", x.told(2, 4), 28);
+        Due.is("P32 two again", x.back(), 2);
+        Due.is("P8 another good", x.good(1, 8), 0);
+        Due.is("P10 its worth", x.part(0, 3), 8);
+        Due.is("P10 its left", x.part(0, 11), 1023);
+        Due.is("P11 a third again", x.eater(0, 1), 2);
+        Due.is("P12 it had nothing", x.told(2, 4), 0);
+        Due.is("P12 it paid nothing", x.told(2, 3), 100);
         Due.is("P31 three", x.image(), 3);
         Due.is("P32 three", x.back(), 3);
     }

@@ -108,6 +108,12 @@ public final class MarksAndDaysTest {
         // Hired teeth don't ask for the jaw.
         Due.is("P24 hired ones' jaws", x.kinds(4, 0, 0b11100, 2), 63);
         Due.is("P24 hired ones' jaws", x.kinds(4, 0, 0b11000, 2), 0);
+        Due.is("P24 hired ones' least jaw", x.kinds(4, 0, 0b11100, 3), 1);
+        Due.is("P24 hired ones' least jaw", x.kinds(4, 0, 0b11000, 3), NONE);
+        // At the place 0 a wide one's highest bit alone takes the cell 0.
+        x.lend(1, 0, 0b100000);
+        Due.is("P23 at the place 0", x.whose(0, 1) & 2, 2);
+        Due.is("P24 at the place 0", x.kinds(1, 0, 1, 0), 0b111111);
         Due.is("P24 soft enough", x.kinds(2, 0, 0b1111110, 3), 63);
         x.put(0, 10, 4);
         Due.is("P24 too hard", x.kinds(2, 0, 0b1111110, 3), NONE);
