@@ -777,6 +777,13 @@ public final class BiteFirst {
             purse -= cost;
             from.left &= ~bits;
         }
+
+        /** In thought, all may be again as it was ahead of a bite. */
+        void giveBack(Good to, int left, int purseWas, int hadWas) {
+            to.left = left;
+            purse = purseWas;
+            had = hadWas;
+        }
     }
 
     /** A text that was read: its three parts as steps for a stack, one behind the other. */
@@ -1202,20 +1209,24 @@ public final class BiteFirst {
             return true;
         }
 
+        /** How bite k of all, by goods, then places, is told. */
+        static int tellBite(int k) {
+            return 100 * (k / PLACES) + k % PLACES;
+        }
+
         void findBest(Eater one) {
             bestBite = NONE;
             bestGain = 0;
             for (int k = 0; k < goodCount * PLACES; k++) {
-                int at = k % PLACES;
                 Good from = goods[k / PLACES];
-                int bits = one.markOf(from, at);
+                int bits = one.markOf(from, k % PLACES);
                 int cost = bits == 0 ? 0 : costOf(one, from, bits);
                 if (bits == 0 || cost > one.purse) {
                     continue;
                 }
                 int its = worthOf(one, from, bits) - cost;
                 if ((bestBite == NONE || its > bestGain) && its >= leastGain(one, from, bits)) {
-                    bestBite = 100 * (k / PLACES) + at;
+                    bestBite = tellBite(k);
                     bestGain = its;
                 }
             }
@@ -1234,6 +1245,8 @@ public final class BiteFirst {
     /** What would come of bites, on a scene of its own. */
     private static final class Thought {
         private static final long LOT_FACTOR = 48271, LOT_MODULUS = 2147483647;
+        // Below all that a duel comes to.
+        private static final int CAN_NOT_BE = -1000000;
 
         final Scene scene;
         int order;
@@ -1251,7 +1264,7 @@ public final class BiteFirst {
         }
 
         /** Tries, behind so many turns, all orders of those who have had none; gone has the others' bits. */
-        void tryOrders(int turns, int gone, int digits, int gains) {
+        private void tryOrders(int turns, int gone, int digits, int gains) {
             if (turns >= scene.eaterCount) {
                 if (order == NONE || gains > orderGains) {
                     order = digits;
@@ -1261,51 +1274,39 @@ public final class BiteFirst {
             }
             for (int e = 0; e < scene.eaterCount; e++) {
                 if ((gone >> e & 1) == 0) {
-                    tryNext(e, turns, gone, digits, gains);
+                    tryNext(e, turns, gone | 1 << e, 10 * digits + e + 1, gains);
                 }
             }
         }
 
         private void tryNext(int e, int turns, int gone, int digits, int gains) {
             Eater one = scene.eaters[e];
-            int purse = one.purse;
-            int had = one.had;
             scene.findBest(one);
             Good from = scene.goodOfBest();
-            int left = from == null ? 0 : from.left;
-            int more = scene.bestGain;
-            if (from != null) {
-                scene.tryBite(one, from, scene.placeOfBest());
+            if (from == null) {
+                tryOrders(turns + 1, gone, digits, gains);
+                return;
             }
-            tryOrders(turns + 1, gone | 1 << e, 10 * digits + e + 1, gains + more);
-            if (from != null) {
-                from.left = left;
-            }
-            one.purse = purse;
-            one.had = had;
+            int purse = one.purse;
+            int had = one.had;
+            int left = from.left;
+            scene.tryBite(one, from, scene.placeOfBest());
+            tryOrders(turns + 1, gone, digits, gains + scene.gain);
+            one.giveBack(from, left, purse, had);
         }
 
         /** What a duel comes to for the one whose turn it is; duelBite is the bite of that turn then. */
-        int tryDuel(Eater one, Eater other, int turns) {
+        private int tryDuel(Eater one, Eater other, int turns) {
             if (turns <= 0) {
                 return 0;
             }
             int found = NONE;
-            int most = 0;
-            int purse = one.purse;
-            int had = one.had;
+            int most = CAN_NOT_BE;
             for (int k = 0; k < scene.goodCount * PLACES; k++) {
-                Good from = scene.goods[k / PLACES];
-                int left = from.left;
-                if (scene.tryBite(one, from, k % PLACES)) {
-                    int comesTo = scene.gain - tryDuel(other, one, turns - 1);
-                    if (found == NONE || comesTo > most) {
-                        found = 100 * (k / PLACES) + k % PLACES;
-                        most = comesTo;
-                    }
-                    from.left = left;
-                    one.purse = purse;
-                    one.had = had;
+                int comesTo = tryTurn(one, other, turns, k);
+                if (comesTo > most) {
+                    found = Scene.tellBite(k);
+                    most = comesTo;
                 }
             }
             if (found == NONE) {
@@ -1314,6 +1315,20 @@ public final class BiteFirst {
             // Set last: the turns behind this one have set it, too.
             duelBite = found;
             return most;
+        }
+
+        private int tryTurn(Eater one, Eater other, int turns, int k) {
+            Good from = scene.goods[k / PLACES];
+            int purse = one.purse;
+            int had = one.had;
+            int left = from.left;
+            if (!scene.tryBite(one, from, k % PLACES)) {
+                return CAN_NOT_BE;
+            }
+            int gain = scene.gain;
+            int comesTo = gain - tryDuel(other, one, turns - 1);
+            one.giveBack(from, left, purse, had);
+            return comesTo;
         }
 
         /** Does the bites that a sheet tells up to the first that cannot be: that one, or NONE. */
