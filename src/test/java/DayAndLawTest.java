@@ -252,6 +252,12 @@ public final class DayAndLawTest {
         Due.is("P5 a long one", Due.text(x, all + "2*3*4;waits 8-7-1+day*1*1*1*1*1*1*1;"), 1);
         Due.is("P5 a short one", Due.text(x, "pays 5;likes 6;waits 7;"), 2);
         Due.is("P5 the long one again", Due.text(x, all + "2*3*4;waits 8-7-1+day*1*1*1*1*1*1*1;"), 3);
+        Due.text(x, "pays 99999999999999999999999999");
+        Due.is("P5 nothing behind the tape is read", Due.text(x, "pays 99"), -107);
+        Due.text(x, "pays cellscellscellscells");
+        Due.is("P5 nothing behind the tape is read", Due.text(x, "pays cells"), -110);
+        Due.text(x, "pays 1                    ");
+        Due.is("P5 nothing behind the tape is read", Due.text(x, "pays 1 "), -107);
         int[][] say = {{0, 0, 0}, {180, 24, 9}, {5, 6, 7}, {180, 24, 9}};
         x.set(9);
         for (int t = 1; t < 4; t++) {
