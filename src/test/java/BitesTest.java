@@ -6,7 +6,6 @@ public final class BitesTest {
     public static void main(String[] args) {
         marks();
         costsAndWorths();
-        marksRefused();
         bites();
         bitesOfKinds();
         bests();
@@ -77,22 +76,6 @@ public final class BitesTest {
         Due.law(x, "day", "day - 20", "0");
         Due.is("P15 day", x.mark(0, 0, 8, 1), 31);
         Due.is("P15 day", x.mark(0, 0, 8, 2), 33);
-    }
-
-    private static void marksRefused() {
-        BiteFirst x = pair(0, 1, 0, 1);
-        Due.is("P15 eater 1", x.mark(1, 0, 0, 0), -5);
-        Due.is("P15 eater -1", x.mark(-1, 0, 0, 0), -5);
-        Due.is("P15 good 1", x.mark(0, 1, 0, 0), -5);
-        Due.is("P15 good -1", x.mark(0, -1, 0, 0), -5);
-        Due.is("P15 place 16", x.mark(0, 0, 16, 0), -7);
-        Due.is("P15 place -1", x.mark(0, 0, -1, 0), -7);
-        Due.is("P15 what 3", x.mark(0, 0, 0, 3), -7);
-        Due.is("P15 what -1", x.mark(0, 0, 0, -1), -7);
-        Due.is("P15 no eater ahead of place", x.mark(1, 0, 16, 3), -5);
-        x.lend(0, 1, 0);
-        Due.is("P15 a bite that can't be", x.mark(0, 0, 6, 1), 2);
-        Due.is("P15 a bite that can't be", x.mark(0, 0, 6, 2), 1);
     }
 
     private static void bites() {

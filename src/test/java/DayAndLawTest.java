@@ -1,7 +1,7 @@
 /** Promises 1 to 7: a new object, the day, the tape, texts, the law. */
 public final class DayAndLawTest {
 
-    private static final int NONE = -1, BAD = -2, STATE = -3, FULL = -4;
+    private static final int BAD = -2, STATE = -3, FULL = -4;
 
     public static void main(String[] args) {
         newObject();

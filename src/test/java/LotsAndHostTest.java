@@ -1,23 +1,18 @@
 /** Promises 29 to 37: days by lots, images, the host's sheets. */
 public final class LotsAndHostTest {
 
-    private static final int NONE = -1, BAD = -2, STATE = -3;
-    private static final long NO = -4611686018427387904L;
+    private static final int BAD = -2, STATE = -3;
 
     public static void main(String[] args) {
         draws();
         drawsByHand();
-        drawsRefused();
         odds();
-        oddsRefused();
         images();
         backs();
         sheets();
         cells();
         copies();
-        copiesRefused();
         eatersBySheets();
-        eatersBySheetsRefused();
         taken();
         Due.end("LotsAndHostTest");
     }
@@ -85,29 +80,9 @@ public final class LotsAndHostTest {
         }
     }
 
-    private static void drawsRefused() {
-        BiteFirst x = new BiteFirst();
-        Due.is("P29 nobody", x.drawn(0, 0, 0, 0), -5);
-        x.eater(0, 1);
-        Due.is("P29 no goods", x.drawn(0, 0, 0, 0), STATE);
-        Due.is("P29 seed ahead of no goods", x.drawn(-1, 0, 0, 0), -7);
-        x.good(0, 1);
-        Due.is("P29 seed -1", x.drawn(-1, 0, 0, 0), -7);
-        Due.is("P29 seed 100000", x.drawn(100000, 0, 0, 0), -7);
-        Due.is("P29 n -1", x.drawn(0, -1, 0, 0), -7);
-        Due.is("P29 n 61", x.drawn(0, 61, 0, 0), -7);
-        Due.is("P29 n 60", x.drawn(0, 60, 0, 1) >= 0 ? 1 : 0, 1);
-        Due.is("P29 what 2", x.drawn(0, 0, 0, 2), -7);
-        Due.is("P29 what -1", x.drawn(0, 0, 0, -1), -7);
-        Due.is("P29 eater 1", x.drawn(0, 0, 1, 0), -5);
-        Due.is("P29 eater -1", x.drawn(0, 0, -1, 0), -5);
-        Due.is("P29 no eater ahead of seed", x.drawn(-1, 61, 1, 2), -5);
-    }
-
     private static void odds() {
-        BiteFirst x = alone();
-        x.eater(0, 0b111);
         for (int seeds = 1; seeds <= 40; seeds += 3) {
+            BiteFirst x = alone();
             for (int want = 0; want < 12; want += 4) {
                 int lots = seeds + want;
                 int above = 0;
@@ -122,6 +97,8 @@ public final class LotsAndHostTest {
                 Due.is("P30 below", x.odds(7, 100 * lots + seeds, 0, want, 1), seeds / d);
             }
         }
+        BiteFirst x = alone();
+        x.eater(0, 0b111);
         Due.is("P30 all", x.odds(7, 6040, 1, 0, 0), 1);
         Due.is("P30 all", x.odds(7, 6040, 1, 0, 1), 1);
         Due.is("P30 none", x.odds(7, 6040, 1, 9999, 0), 0);
@@ -135,33 +112,6 @@ public final class LotsAndHostTest {
         Due.is("P30 1 of 3", y.odds(1, 103, 0, 3, 0), 1);
         Due.is("P30 0 of 3", y.odds(1, 103, 0, 4, 0), 0);
         Due.is("P30 in thought", x.part(0, 11), 1023);
-    }
-
-    private static void oddsRefused() {
-        BiteFirst x = new BiteFirst();
-        Due.is("P30 nobody", x.odds(0, 101, 0, 0, 0), NO);
-        x.eater(0, 1);
-        Due.is("P30 no goods", x.odds(0, 101, 0, 0, 0), NO);
-        x.good(0, 1);
-        Due.is("P30 fine", x.odds(0, 101, 0, 0, 0), 1);
-        Due.is("P30 seed -1", x.odds(-1, 101, 0, 0, 0), NO);
-        Due.is("P30 seed 100000", x.odds(100000, 101, 0, 0, 0), NO);
-        Due.is("P30 seed 99999", x.odds(99999, 101, 0, 0, 0), 1);
-        Due.is("P30 no seeds", x.odds(0, 100, 0, 0, 0), NO);
-        Due.is("P30 no seeds, no lots", x.odds(0, 0, 0, 0, 0), NO);
-        Due.is("P30 41 seeds", x.odds(0, 141, 0, 0, 0), NO);
-        Due.is("P30 61 lots", x.odds(0, 6101, 0, 0, 0), NO);
-        Due.is("P30 60 lots", x.odds(0, 6001, 0, 0, 0), 1);
-        Due.is("P30 lots below 0", x.odds(0, -1, 0, 0, 0), NO);
-        Due.is("P30 lots below 0", x.odds(0, -99, 0, 0, 0), NO);
-        Due.is("P30 lots below 0", x.odds(0, Integer.MIN_VALUE, 0, 0, 0), NO);
-        Due.is("P30 eater 1", x.odds(0, 101, 1, 0, 0), NO);
-        Due.is("P30 eater -1", x.odds(0, 101, -1, 0, 0), NO);
-        Due.is("P30 want -1", x.odds(0, 101, 0, -1, 0), NO);
-        Due.is("P30 want 10000", x.odds(0, 101, 0, 10000, 0), NO);
-        Due.is("P30 want 9999", x.odds(0, 101, 0, 9999, 0), 0);
-        Due.is("P30 part 2", x.odds(0, 101, 0, 0, 2), NO);
-        Due.is("P30 part -1", x.odds(0, 101, 0, 0, -1), NO);
     }
 
     private static void images() {
@@ -339,41 +289,6 @@ public final class LotsAndHostTest {
         }
     }
 
-    private static void copiesRefused() {
-        BiteFirst x = four(2);
-        x.sheet(2, 2, 4);
-        x.sheet(3, 1, 4);
-        Due.is("P35 sheet 4", x.copy(4, 0, 0, 0, 1), BAD);
-        Due.is("P35 sheet -1", x.copy(-1, 0, 0, 0, 1), BAD);
-        Due.is("P35 to sheet 4", x.copy(0, 0, 4, 0, 1), BAD);
-        Due.is("P35 to sheet -1", x.copy(0, 0, -1, 0, 1), BAD);
-        Due.is("P35 BAD ahead of nothing there", x.copy(1, 0, 4, 0, 1), BAD);
-        Due.is("P35 nothing there", x.copy(1, 0, 0, 0, 1), -11);
-        Due.is("P35 nothing there", x.copy(0, 0, 1, 0, 1), -11);
-        Due.is("P35 nothing there, both", x.copy(1, 0, 1, 0, 0), -11);
-        Due.is("P35 unlike sorts", x.copy(0, 0, 3, 0, 1), -13);
-        Due.is("P35 unlike sorts", x.copy(3, 0, 0, 0, 1), -13);
-        Due.is("P35 unlike sorts ahead of places", x.copy(0, -1, 3, 9, -1), -13);
-        Due.is("P35 n -1", x.copy(0, 0, 2, 0, -1), -12);
-        Due.is("P35 n least", x.copy(0, 0, 2, 0, Integer.MIN_VALUE), -12);
-        Due.is("P35 n most", x.copy(0, 0, 2, 0, Integer.MAX_VALUE), -12);
-        Due.is("P35 i -1", x.copy(0, -1, 2, 0, 1), -12);
-        Due.is("P35 j -1", x.copy(0, 0, 2, -1, 1), -12);
-        Due.is("P35 i 8", x.copy(0, 8, 2, 0, 1), -12);
-        Due.is("P35 i 9, none", x.copy(0, 9, 2, 0, 0), -12);
-        Due.is("P35 i -1, none", x.copy(0, -1, 2, 0, 0), -12);
-        Due.is("P35 j 4", x.copy(0, 0, 2, 4, 1), -12);
-        Due.is("P35 j 5, none", x.copy(0, 0, 2, 5, 0), -12);
-        Due.is("P35 i 7, two", x.copy(0, 7, 2, 0, 2), -12);
-        Due.is("P35 j 3, two", x.copy(0, 0, 2, 3, 2), -12);
-        Due.is("P35 i most", x.copy(0, Integer.MAX_VALUE, 2, 0, 1), -12);
-        Due.is("P35 j most", x.copy(0, 0, 2, Integer.MAX_VALUE, 1), -12);
-        x.cell(2, 1, 1);
-        Due.is("P35 nothing came", x.eatersBy(2, 2, 0, 1), 1);
-        Due.is("P35 nothing came", x.told(0, 1), 0);
-        hasMores("P35 nothing came", four(2), 0, 2, 0, 1, 2, 3);
-    }
-
     private static void eatersBySheets() {
         for (int sort = 0; sort < 3; sort++) {
             BiteFirst x = new BiteFirst();
@@ -395,35 +310,6 @@ public final class LotsAndHostTest {
             Due.is("P36 no room: left out", x.eatersBy(1, sort, 0, 5), 0);
             Due.is("P36 five", x.count(0), 5);
         }
-    }
-
-    private static void eatersBySheetsRefused() {
-        BiteFirst x = four(1);
-        Due.is("P36 sheet 4", x.eatersBy(4, 1, 0, 1), BAD);
-        Due.is("P36 sheet -1", x.eatersBy(-1, 1, 0, 1), BAD);
-        Due.is("P36 sort 3", x.eatersBy(0, 3, 0, 1), BAD);
-        Due.is("P36 sort -1", x.eatersBy(0, -1, 0, 1), BAD);
-        Due.is("P36 sort -1, missing", x.eatersBy(1, -1, 0, 1), BAD);
-        Due.is("P36 n 6", x.eatersBy(0, 1, 0, 6), BAD);
-        Due.is("P36 n -1", x.eatersBy(0, 1, 0, -1), BAD);
-        Due.is("P36 BAD ahead of nothing there", x.eatersBy(1, 1, 0, 6), BAD);
-        Due.is("P36 nothing there", x.eatersBy(1, 1, 0, 1), -11);
-        Due.is("P36 another sort", x.eatersBy(0, 0, 0, 1), -13);
-        Due.is("P36 another sort", x.eatersBy(0, 2, 0, 1), -13);
-        Due.is("P36 another sort ahead of the place", x.eatersBy(0, 2, 99, 1), -13);
-        Due.is("P36 place -1", x.eatersBy(0, 1, -1, 1), -12);
-        Due.is("P36 place 8", x.eatersBy(0, 1, 8, 1), -12);
-        Due.is("P36 place 7", x.eatersBy(0, 1, 7, 1), -12);
-        Due.is("P36 place most", x.eatersBy(0, 1, Integer.MAX_VALUE, 1), -12);
-        Due.is("P36 place least", x.eatersBy(0, 1, Integer.MIN_VALUE, 1), -12);
-        Due.is("P36 nobody came", x.count(0), 0);
-        Due.is("P36 the third is outside", x.eatersBy(0, 1, 4, 3), -12);
-        Due.is("P36 two stood ahead", x.count(0), 2);
-        Due.is("P36 the first", x.told(0, 1), 2);
-        Due.is("P36 the second", x.told(1, 1), 3);
-        Due.is("P36 half of the second is outside", x.eatersBy(0, 1, 5, 2), -12);
-        Due.is("P36 the one ahead came", x.count(0), 3);
-        Due.is("P36 the last pair", x.eatersBy(0, 1, 6, 1), 1);
     }
 
     private static void taken() {

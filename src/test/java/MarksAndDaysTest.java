@@ -7,14 +7,10 @@ public final class MarksAndDaysTest {
         whose();
         kindsAndMores();
         jaws();
-        kindsRefused();
         judges();
-        judgesRefused();
         ends();
-        endsRefused();
         laws();
         films();
-        filmsRefused();
         Due.end("MarksAndDaysTest");
     }
 
@@ -123,28 +119,6 @@ public final class MarksAndDaysTest {
         Due.is("P24 jaw stays", x.told(0, 2), 63);
     }
 
-    private static void kindsRefused() {
-        BiteFirst x = new BiteFirst();
-        Due.is("P24 nobody, nothing", x.kinds(0, 0, 0, 4), -6);
-        x.eater(0, 1);
-        Due.is("P24 no good ahead of the mark", x.kinds(0, 0, 0, 4), -5);
-        x.good(0, 1);
-        x.put(0, 11, 0b1101);
-        for (int sort = 0; sort < 4; sort++) {
-            Due.is("P24 no cell", x.kinds(0, 0, 0, sort), -7);
-            Due.is("P24 1024", x.kinds(0, 0, 1024, sort), -7);
-            Due.is("P24 -1", x.kinds(0, 0, -1, sort), -7);
-            Due.is("P24 not left", x.kinds(0, 0, 0b11, sort), -7);
-            Due.is("P24 eater 1", x.kinds(1, 0, 1, sort), -6);
-            Due.is("P24 eater -1", x.kinds(-1, 0, 1, sort), -6);
-            Due.is("P24 good 1", x.kinds(0, 1, 1, sort), -5);
-            Due.is("P24 good -1", x.kinds(0, -1, 1, sort), -5);
-            Due.is("P24 no eater ahead of no good", x.kinds(1, 1, 1, sort), -6);
-        }
-        Due.is("P24 sort 4", x.kinds(0, 0, 1, 4), -7);
-        Due.is("P24 sort -1", x.kinds(0, 0, 1, -1), -7);
-    }
-
     /** Two eaters, one good of ten nines. */
     private static BiteFirst table() {
         BiteFirst x = new BiteFirst();
@@ -182,30 +156,6 @@ public final class MarksAndDaysTest {
         Due.is("P25 by the law", x.judge(0), NONE);
     }
 
-    private static void judgesRefused() {
-        BiteFirst x = table();
-        Due.is("P25 sheet 4", x.judge(4), BAD);
-        Due.is("P25 sheet -1", x.judge(-1), BAD);
-        Due.is("P25 nothing there", x.judge(0), -11);
-        x.sheet(0, 0, 4);
-        Due.is("P25 not by threes", x.judge(0), BAD);
-        x.sheet(0, 0, 2);
-        Due.is("P25 not by threes", x.judge(0), BAD);
-        int[][] bad = {{2, 0, 6}, {-1, 0, 6}, {0, 2, 6}, {0, -1, 6}, {0, 0, 16}, {0, 0, -1}};
-        for (int[] b : bad) {
-            Due.row(x, 0, 2, b);
-            Due.is("P25 no such " + b[0] + ", " + b[1] + ", " + b[2], x.judge(0), BAD);
-            Due.row(x, 0, 0, 0, 0, 0, b[0], b[1], b[2]);
-            Due.is("P25 behind one that can't be", x.judge(0), BAD);
-        }
-        Due.row(x, 0, 0, 256, 512, 262);
-        Due.is("P25 the lowest 8 bits", x.judge(0), NONE);
-        Due.row(x, 0, 1, 65536, 65537, 65536 + 6);
-        Due.is("P25 the lowest 16 bits", x.judge(0), NONE);
-        Due.row(x, 0, 2, 65536, 65537, 65536 + 6);
-        Due.is("P25 all bits", x.judge(0), BAD);
-    }
-
     private static void ends() {
         BiteFirst x = table();
         Due.row(x, 0, 0, 0, 0, 6, 1, 0, 7, 0, 1, 15, 0, 0, 8, 1, 0, 12);
@@ -231,27 +181,6 @@ public final class MarksAndDaysTest {
         Due.is("P26 no bites", x.ends(0, 1, 0), 18);
         Due.is("P26 no bites", x.ends(0, 1, 1), 2);
         Due.is("P26 no bites", x.ends(0, 1, 2), 1020);
-    }
-
-    private static void endsRefused() {
-        BiteFirst x = table();
-        x.good(0, 1);
-        Due.is("P26 sheet 4", x.ends(4, 9, 9), BAD);
-        Due.is("P26 sheet -1", x.ends(-1, 9, 9), BAD);
-        Due.is("P26 nothing there", x.ends(0, 9, 9), -11);
-        x.sheet(0, 0, 5);
-        Due.is("P26 not by threes", x.ends(0, 9, 9), BAD);
-        Due.row(x, 0, 0, 0, 0, 16);
-        Due.is("P26 no such place", x.ends(0, 9, 9), BAD);
-        Due.row(x, 0, 0, 0, 0, 6);
-        Due.is("P26 what ahead of who", x.ends(0, 9, 3), -7);
-        Due.is("P26 what -1", x.ends(0, 0, -1), -7);
-        Due.is("P26 eater 2", x.ends(0, 2, 0), -5);
-        Due.is("P26 eater 2", x.ends(0, 2, 1), -5);
-        Due.is("P26 eater -1", x.ends(0, -1, 0), -5);
-        Due.is("P26 good 2", x.ends(0, 2, 2), 1023);
-        Due.is("P26 good 3", x.ends(0, 3, 2), -5);
-        Due.is("P26 good -1", x.ends(0, -1, 2), -5);
     }
 
     private static void laws() {
@@ -359,18 +288,5 @@ public final class MarksAndDaysTest {
         int mark = x.mark(1, 0, v, 0);
         x.back();
         return left == (1023 & ~mark) ? 1 : 0;
-    }
-
-    private static void filmsRefused() {
-        BiteFirst x = table();
-        x.sheet(0, 2, 3);
-        Due.is("P28 n 14", x.film(0, 14), BAD);
-        Due.is("P28 n -1", x.film(0, -1), BAD);
-        Due.is("P28 sheet 4", x.film(4, 1), BAD);
-        Due.is("P28 sheet -1", x.film(-1, 1), BAD);
-        x.sheet(1, 2, 3);
-        Due.is("P28 a refusal leaves the sheet", x.copy(0, 0, 1, 0, 3), 3);
-        Due.is("P28 a missing one comes", x.film(3, 1), 1);
-        Due.is("P28 a missing one came", x.judge(3), NONE);
     }
 }

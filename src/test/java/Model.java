@@ -10,7 +10,7 @@ import java.util.Map;
  */
 final class Model {
 
-    static final int NONE = -1, BAD = -2, STATE = -3, FULL = -4;
+    static final int BAD = -2, STATE = -3, FULL = -4;
     static final long NO = -4611686018427387904L;
 
     /** What an image keeps, and kinds and MOREs, which never change. */

@@ -3,13 +3,15 @@ import java.util.Random;
 /** All promises: many runs of calls by lots (of fixed seeds), each answer set beside the model's. */
 public final class ModelTest {
 
-    private static final int RUNS = 400, CALLS = 512;
+    // An object is used for at most 512 calls; the most that one call() here makes is some 40.
+    private static final int RUNS = 400, CALLS = 470;
 
     private final Random lots;
     private final BiteFirst x = new BiteFirst();
     private final Model m = new Model();
     private final String run;
     private final boolean tame;
+    private int calls;
 
     private ModelTest(int seed) {
         lots = new Random(seed);
@@ -21,11 +23,11 @@ public final class ModelTest {
         for (int seed = 0; seed < RUNS; seed++) {
             ModelTest test = new ModelTest(seed);
             test.furnish();
-            int calls = 0;
             // Behind a wrong answer the two are apart: what follows tells nothing more.
-            while (calls < CALLS && Due.wrong() == 0) {
-                calls += test.call();
+            for (int lot = 0; lot < 2 * CALLS && test.calls < CALLS && Due.wrong() == 0; lot++) {
+                test.call();
             }
+            Due.isTrue("no more calls than an object is used for", test.calls <= 512);
         }
         Due.end("ModelTest");
     }
@@ -57,12 +59,12 @@ public final class ModelTest {
 
     /** An eater, mostly one that is there. */
     private int who() {
-        int n = x.count(0);
+        int n = m.count(0);
         return n == 0 || lots.nextInt(40) == 0 ? about(0, 4) : lots.nextInt(n);
     }
 
     private int which() {
-        int n = x.count(1);
+        int n = m.count(1);
         return n == 0 || lots.nextInt(40) == 0 ? about(0, 5) : lots.nextInt(n);
     }
 
@@ -71,6 +73,7 @@ public final class ModelTest {
     }
 
     private void due(String call, long got, long want) {
+        calls++;
         Due.is(run + call, got, want);
     }
 
@@ -94,64 +97,64 @@ public final class ModelTest {
         }
     }
 
-    private int call() {
+    private void call() {
         int a;
         int b;
         int c;
         int d;
         switch (lots.nextInt(52)) {
-            case 0: a = about(0, 5); due("count " + a, x.count(a), m.count(a)); return 1;
-            case 1: a = about(0, 99); due("set " + a, x.set(a), m.set(a)); return 1;
-            case 2: case 3: return texts();
-            case 4: return strayFeed();
-            case 5: a = lots.nextInt(4) == 0 ? about(0, 5) : upTo(x.count(3) - 1); due("force " + a, x.force(a), m.force(a)); return 1;
+            case 0: a = about(0, 5); due("count " + a, x.count(a), m.count(a)); return;
+            case 1: a = about(0, 99); due("set " + a, x.set(a), m.set(a)); return;
+            case 2: case 3: texts(); return;
+            case 4: strayFeed(); return;
+            case 5: a = lots.nextInt(4) == 0 ? about(0, 5) : upTo(m.count(3) - 1); due("force " + a, x.force(a), m.force(a)); return;
             case 6: case 7: a = about(0, 2); b = who(); c = which(); d = about(0, 1099);
-                due("asks " + a + " " + b + " " + c + " " + d, x.asks(a, b, c, d), m.asks(a, b, c, d)); return 1;
-            case 8: if (lots.nextInt(4) != 0) { return 0; }
-                a = about(0, 9); b = about(0, 99); due("good " + a + " " + b, x.good(a, b), m.good(a, b)); return 1;
+                due("asks " + a + " " + b + " " + c + " " + d, x.asks(a, b, c, d), m.asks(a, b, c, d)); return;
+            case 8: if (lots.nextInt(4) != 0) { return; }
+                a = about(0, 9); b = about(0, 99); due("good " + a + " " + b, x.good(a, b), m.good(a, b)); return;
             case 9: case 10: a = which(); b = about(0, 11); c = b == 10 ? about(0, 9) : b == 11 ? left() : about(0, 99);
-                due("put " + a + " " + b + " " + c, x.put(a, b, c), m.put(a, b, c)); return 1;
-            case 11: a = which(); b = about(0, 11); due("part " + a + " " + b, x.part(a, b), m.part(a, b)); return 1;
-            case 12: if (lots.nextInt(4) != 0) { return 0; }
-                a = about(0, 59); b = jaw(); due("eater " + a + " " + b, x.eater(a, b), m.eater(a, b)); return 1;
-            case 13: a = who(); b = about(0, 4); due("told " + a + " " + b, x.told(a, b), m.told(a, b)); return 1;
+                due("put " + a + " " + b + " " + c, x.put(a, b, c), m.put(a, b, c)); return;
+            case 11: a = which(); b = about(0, 11); due("part " + a + " " + b, x.part(a, b), m.part(a, b)); return;
+            case 12: if (lots.nextInt(4) != 0) { return; }
+                a = about(0, 59); b = jaw(); due("eater " + a + " " + b, x.eater(a, b), m.eater(a, b)); return;
+            case 13: a = who(); b = about(0, 4); due("told " + a + " " + b, x.told(a, b), m.told(a, b)); return;
             case 14: case 15: a = who(); b = about(0, 1); c = b == 0 ? jaw() : lots.nextInt(3) == 0 ? about(0, 9999) : about(0, 40);
-                due("lend " + a + " " + b + " " + c, x.lend(a, b, c), m.lend(a, b, c)); return 1;
-            case 16: a = who(); b = which(); due("shape " + a + " " + b, x.shape(a, b), m.shape(a, b)); return 1;
+                due("lend " + a + " " + b + " " + c, x.lend(a, b, c), m.lend(a, b, c)); return;
+            case 16: a = who(); b = which(); due("shape " + a + " " + b, x.shape(a, b), m.shape(a, b)); return;
             case 17: case 18: a = who(); b = which(); c = about(0, 15); d = about(0, 2);
-                due("mark " + a + " " + b + " " + c + " " + d, x.mark(a, b, c, d), m.mark(a, b, c, d)); return 1;
+                due("mark " + a + " " + b + " " + c + " " + d, x.mark(a, b, c, d), m.mark(a, b, c, d)); return;
             case 19: case 20: a = who(); b = which(); c = about(0, 15);
-                due("bite " + a + " " + b + " " + c, x.bite(a, b, c), m.bite(a, b, c)); return 1;
-            case 21: case 22: a = who(); b = about(0, 1); due("best " + a + " " + b, x.best(a, b), m.best(a, b)); return 1;
-            case 23: a = about(0, 1); if (lots.nextInt(3) == 0) { due("orderly " + a, x.orderly(a), m.orderly(a)); } return 1;
+                due("bite " + a + " " + b + " " + c, x.bite(a, b, c), m.bite(a, b, c)); return;
+            case 21: case 22: a = who(); b = about(0, 1); due("best " + a + " " + b, x.best(a, b), m.best(a, b)); return;
+            case 23: a = about(0, 1); if (lots.nextInt(3) == 0) { due("orderly " + a, x.orderly(a), m.orderly(a)); } return;
             case 24: case 25: a = who(); b = who(); c = about(1, 2); d = about(0, 1);
-                due("duel " + a + " " + b + " " + c + " " + d, x.duel(a, b, c, d), m.duel(a, b, c, d)); return 1;
-            case 26: a = who(); b = which(); due("fewest " + a + " " + b, x.fewest(a, b), m.fewest(a, b)); return 1;
-            case 27: a = which(); b = about(0, 1); due("soonest " + a + " " + b, x.soonest(a, b), m.soonest(a, b)); return 1;
-            case 28: case 29: a = who(); b = about(0, 1); due("hire " + a + " " + b, x.hire(a, b), m.hire(a, b)); return 1;
-            case 30: a = which(); b = mark(a); due("whose " + a + " " + b, x.whose(a, b), m.whose(a, b)); return 1;
+                due("duel " + a + " " + b + " " + c + " " + d, x.duel(a, b, c, d), m.duel(a, b, c, d)); return;
+            case 26: a = who(); b = which(); due("fewest " + a + " " + b, x.fewest(a, b), m.fewest(a, b)); return;
+            case 27: a = which(); b = about(0, 1); due("soonest " + a + " " + b, x.soonest(a, b), m.soonest(a, b)); return;
+            case 28: case 29: a = who(); b = about(0, 1); due("hire " + a + " " + b, x.hire(a, b), m.hire(a, b)); return;
+            case 30: a = which(); b = mark(a); due("whose " + a + " " + b, x.whose(a, b), m.whose(a, b)); return;
             case 31: case 32: a = who(); b = which(); c = mark(b); d = about(0, 3);
-                due("kinds " + a + " " + b + " " + c + " " + d, x.kinds(a, b, c, d), m.kinds(a, b, c, d)); return 1;
-            case 33: case 34: return toldDay();
-            case 35: a = about(0, 3); due("judge " + a, x.judge(a), m.judge(a)); return 1;
+                due("kinds " + a + " " + b + " " + c + " " + d, x.kinds(a, b, c, d), m.kinds(a, b, c, d)); return;
+            case 33: case 34: toldDay(); return;
+            case 35: a = about(0, 3); due("judge " + a, x.judge(a), m.judge(a)); return;
             case 36: a = about(0, 3); b = about(0, 5); c = about(0, 2);
-                due("ends " + a + " " + b + " " + c, x.ends(a, b, c), m.ends(a, b, c)); return 1;
-            case 37: a = about(0, 3); due("laws " + a, x.laws(a), m.laws(a)); return 1;
-            case 38: return film();
+                due("ends " + a + " " + b + " " + c, x.ends(a, b, c), m.ends(a, b, c)); return;
+            case 37: a = about(0, 3); due("laws " + a, x.laws(a), m.laws(a)); return;
+            case 38: film(); return;
             case 39: case 40: a = about(0, 99999); b = about(0, 60); c = who(); d = about(0, 1);
-                due("drawn " + a + " " + b + " " + c + " " + d, x.drawn(a, b, c, d), m.drawn(a, b, c, d)); return 1;
-            case 41: return odds();
-            case 42: if (lots.nextInt(4) != 0) { return 0; }
-                due("image", x.image(), m.image()); return 1;
-            case 43: if (lots.nextInt(4) != 0) { return 0; }
-                due("back", x.back(), m.back()); return 1;
+                due("drawn " + a + " " + b + " " + c + " " + d, x.drawn(a, b, c, d), m.drawn(a, b, c, d)); return;
+            case 41: odds(); return;
+            case 42: if (lots.nextInt(4) != 0) { return; }
+                due("image", x.image(), m.image()); return;
+            case 43: if (lots.nextInt(4) != 0) { return; }
+                due("back", x.back(), m.back()); return;
             case 44: a = about(0, 3); b = about(-1, 2); c = about(0, 40);
-                due("sheet " + a + " " + b + " " + c, x.sheet(a, b, c), m.sheet(a, b, c)); return 1;
+                due("sheet " + a + " " + b + " " + c, x.sheet(a, b, c), m.sheet(a, b, c)); return;
             case 45: case 46: a = about(0, 3); b = about(0, 39); c = lots.nextBoolean() ? upTo(15) : about(-300, 300);
-                due("cell " + a + " " + b + " " + c, x.cell(a, b, c), m.cell(a, b, c)); return 1;
-            case 47: case 48: return copy();
-            case 49: return eatersBy();
-            default: a = about(0, 10); b = about(0, 6); due("taken " + a + " " + b, x.taken(a, b), m.taken(a, b)); return 1;
+                due("cell " + a + " " + b + " " + c, x.cell(a, b, c), m.cell(a, b, c)); return;
+            case 47: case 48: copy(); return;
+            case 49: eatersBy(); return;
+            default: a = about(0, 10); b = about(0, 6); due("taken " + a + " " + b, x.taken(a, b), m.taken(a, b)); return;
         }
     }
 
@@ -165,7 +168,7 @@ public final class ModelTest {
         return bits < 0 || lots.nextInt(3) == 0 ? about(1, 1023) : bits;
     }
 
-    private int strayFeed() {
+    private void strayFeed() {
         int[] b = new int[5];
         for (int k = 0; k < 5; k++) {
             b[k] = about(0, 255);
@@ -175,12 +178,10 @@ public final class ModelTest {
         if (lots.nextInt(3) != 0) {
             due("text of strays", x.text(), m.text());
         }
-        return 2;
     }
 
-    private int texts() {
+    private void texts() {
         String all = Sentences.text(lots);
-        int calls = 0;
         for (int k = 0; k < all.length(); k += 5) {
             int n = Math.min(5, all.length() - k);
             int[] b = new int[5];
@@ -188,17 +189,15 @@ public final class ModelTest {
                 b[j] = all.charAt(k + j);
             }
             due("feed", x.feed(n, b[0], b[1], b[2], b[3], b[4]), m.feed(n, b[0], b[1], b[2], b[3], b[4]));
-            calls++;
         }
         int t = x.text();
         due("text \"" + all + "\"", t, m.text());
         if (t > 0) {
             due("force " + t, x.force(t), m.force(t));
         }
-        return calls + 1;
     }
 
-    private int toldDay() {
+    private void toldDay() {
         int s = upTo(3);
         int n = 3 * upTo(6) + (lots.nextInt(10) == 0 ? 1 : 0);
         int sort = upTo(2);
@@ -216,10 +215,9 @@ public final class ModelTest {
             int of = what == 2 ? which() : who();
             due("ends " + what, x.ends(s, of, what), m.ends(s, of, what));
         }
-        return 6 + n;
     }
 
-    private int film() {
+    private void film() {
         int s = about(0, 3);
         int n = about(0, 13);
         due("film " + s + " " + n, x.film(s, n), m.film(s, n));
@@ -228,10 +226,9 @@ public final class ModelTest {
             int of = what == 2 ? which() : who();
             due("ends of it " + what, x.ends(s, of, what), m.ends(s, of, what));
         }
-        return 5;
     }
 
-    private int odds() {
+    private void odds() {
         int seed = about(0, 99959);
         int bitesSeeds = 100 * about(0, 60) + about(1, 40);
         int e = who();
@@ -239,20 +236,18 @@ public final class ModelTest {
         int part = about(0, 1);
         due("odds " + seed + " " + bitesSeeds + " " + e + " " + want + " " + part,
                 x.odds(seed, bitesSeeds, e, want, part), m.odds(seed, bitesSeeds, e, want, part));
-        return 1;
     }
 
-    private int copy() {
+    private void copy() {
         int s = about(0, 3);
         int i = about(0, 12);
         int other = lots.nextInt(3) == 0 ? s : about(0, 3);
         int j = about(0, 12);
         int n = about(0, 12);
         due("copy " + s + " " + i + " " + other + " " + j + " " + n, x.copy(s, i, other, j, n), m.copy(s, i, other, j, n));
-        return 1;
     }
 
-    private int eatersBy() {
+    private void eatersBy() {
         int s = about(0, 3);
         int sort = about(0, 2);
         int at = about(0, 12);
@@ -260,7 +255,6 @@ public final class ModelTest {
         if (lots.nextInt(3) == 0) {
             due("eatersBy " + s + " " + sort + " " + at + " " + n, x.eatersBy(s, sort, at, n), m.eatersBy(s, sort, at, n));
         }
-        return 1;
     }
 
     /** Texts by lots, some with faults. */
