@@ -432,7 +432,6 @@ public final class EdgesBitesTest {
         BiteFirst x = Table.bare();
         x.good(0, 9);
         x.put(0, 11, 0b11);
-        x.put(0, 1, 9);
         for (int e = 0; e < 3; e++) {
             x.eater(e == 0 ? 0 : 32, 1);
         }

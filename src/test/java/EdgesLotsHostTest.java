@@ -50,7 +50,7 @@ public final class EdgesLotsHostTest {
 
     // ---- promise 29
 
-    /** As laid, but the GOODS are none: an image ahead of them is back. */
+    /** Two eaters, and nothing that they may bite. */
     private static BiteFirst withoutGoods() {
         BiteFirst x = Table.bare();
         x.eater(4, 0b101);
@@ -99,7 +99,7 @@ public final class EdgesLotsHostTest {
         Due.is("P29 no lots: PURSE, the last", x.drawn(99999, 0, 2, 1), 100);
     }
 
-    /** What one HAS HAD of a whole good of one cell, worth 1 more than its place among them, each. */
+    /** Eaters of one tooth each; the cells of all goods are worth 1, 2, .. one behind the other. */
     private static BiteFirst rows(int eaters, int goods) {
         BiteFirst x = Table.bare();
         for (int e = 0; e < eaters; e++) {
