@@ -1090,11 +1090,11 @@ public final class BiteFirst {
         }
 
         private static boolean isLetter(int b) {
-            return within(b, 'a', 'z');
+            return b >= 'a' && b <= 'z';
         }
 
         private static boolean isDigit(int b) {
-            return within(b, '0', '9');
+            return b >= '0' && b <= '9';
         }
     }
 

@@ -38,6 +38,7 @@ public final class EdgesDayLawTest {
         asksTakes();
         boundsOfWhatATextSays();
         whatIsNot0IsTrue();
+        trueIs1FalseIs0();
         intsWrap();
         Due.end("EdgesDayLawTest");
     }
@@ -576,6 +577,19 @@ public final class EdgesDayLawTest {
         says("alike", "2 = 2", 1, 1, 1);
         says("unlike by 1", "2 = 3", 0, 0, 0);
         says("unlike by 1", "2 = 1", 0, 0, 0);
+    }
+
+    /** "of or, and, not, <, = 1 or 0", not just what the bounds make 0: 5 and that much are reckoned. */
+    private static void trueIs1FalseIs0() {
+        for (String e : new String[] {"1 or 1", "2 or 0", "0 or 2", "2 and 4", "not 0", "1 < 2", "-2 < -1", "2 = 2", "-2 = -2"}) {
+            says("true is 1", "5+(" + e + ")", 6, 6, 6);
+            says("true is 1", "5-(" + e + ")", 4, 4, 4);
+        }
+        for (String e : new String[] {"0 or 0", "1 and 0", "0 and 1", "0 and 0", "not 1", "not -1", "2 < 2", "3 < 2",
+                "-1 < -2", "2 = 1", "1 = 2", "2 = -2"}) {
+            says("false is 0", "5+(" + e + ")", 5, 5, 5);
+            says("false is 0", "5-(" + e + ")", 5, 5, 5);
+        }
     }
 
     /** "An E is an int (32 bits, wrapping)". */

@@ -14,7 +14,7 @@ public final class LanguageTest {
         "\\bimport\\b", "\\bpackage\\b", "->", "::", "\\bprotected\\b", "\\bdouble\\b", "\\bfloat\\b",
         "\\bthread\\b", "\\bvolatile\\b", "\\bnative\\b", "\\bvar\\b", "Exact\\(", "@", "\\bhashCode\\b",
         "\\bequals\\b", "\\btoString\\b", "\\bObject\\b", "\\.class\\b", "\\byield\\b",
-        "System\\.(?!arraycopy)", "Math\\.(?!min|max)", "Integer\\.(?!bitCount)",
+        "System\\.(?!arraycopy)",
     };
 
     public static void main(String[] args) throws IOException {
